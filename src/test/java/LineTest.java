@@ -19,7 +19,9 @@ public final class LineTest {
     }
 
     private static void committee() {
-        KiteTailRental x = Scene.committees(5, 9);
+        KiteTailRental x = Scene.committees(5, 9, 2);
+        Scene.owe(x, 2, 1);
+        Check.same("with arrears of 1", Scene.committeeLine(x, 2), "6:2/2^-1");
         Scene.tails(x, 3, 4);
         Check.same("committee 0", Scene.committeeLine(x, 0), "4:0/5^");
         Check.same("committee 1", Scene.committeeLine(x, 1), "4:1/9^");

@@ -110,17 +110,26 @@ public final class StatisticsTest {
         set(charged, "charged", 1000);
         Check.no("isConsistent() with wrong charges", charged.isConsistent());
 
-        KiteTailRental grounded = busy();
-        grounded.pay(0, 1);
-        row(grounded, "flying", boolean[].class)[1] = false;
-        row(grounded, "arrears", int[].class)[1] = 0;
-        set(grounded, "charged", grounded.paidTotal() + grounded.arrears(0) + grounded.arrears(2));
-        row(grounded, "lengths", int[].class)[2] = 0;
-        Check.no("isConsistent() with a tail behind a grounded kite", grounded.isConsistent());
+        for (int tail = 0; tail < 8; tail++) {
+            KiteTailRental grounded = Scene.committees(1, 1);
+            Scene.tails(grounded, 9, 9, 9, 9, 9, 9, 9, 9);
+            Scene.rent(grounded, 0, 1, tail);
+            row(grounded, "flying", boolean[].class)[0] = false;
+            // Without a length, the forecasts agree still.
+            row(grounded, "lengths", int[].class)[tail] = 0;
+            Check.no("isConsistent() with a tail behind a grounded kite", grounded.isConsistent());
+        }
 
-        KiteTailRental votes = busy();
-        row(votes, "members", int[].class)[2] = 10;
-        Check.no("isConsistent() with votes that differ", votes.isConsistent());
+        for (int motions = 1; motions <= 8; motions++) {
+            KiteTailRental votes = Scene.committees(1, 9);
+            Scene.owe(votes, 1, 1);
+            for (int motion = 1; motion < motions; motion++) {
+                votes.moveToGround(0, 1);
+            }
+            votes.moveToGround(1, 1);
+            row(votes, "members", int[].class)[1] = 10;
+            Check.no("isConsistent() with votes that differ", votes.isConsistent());
+        }
 
         KiteTailRental rate = busy();
         row(rate, "lengths", int[].class)[0] = -9;
