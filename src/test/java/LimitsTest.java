@@ -13,6 +13,7 @@ public final class LimitsTest {
         Check.test("2, 54 a committee in a place that was used", LimitsTest::committeeAnew);
         Check.test("3, 54 a tail in a place that was used", LimitsTest::tailAnew);
         Check.test("17, 54 a motion in a place that was used", LimitsTest::motionAnew);
+        Check.test("2, 3, 17, 56 places that were used before restore", LimitsTest::anewAfterRestore);
         Check.test("54 undo gives back what was written over", LimitsTest::writtenOver);
         Check.test("56 restore gives back what was written over", LimitsTest::restoredOver);
         Check.end();
@@ -156,6 +157,30 @@ public final class LimitsTest {
         x.withdraw(0);
         x.moveToGround(1, 0);
         Check.same("the new motion", Scene.motionLine(x, 1), "6:#1g0:1");
+    }
+
+    private static void anewAfterRestore() {
+        KiteTailRental x = new KiteTailRental();
+        x.save();
+        x.addCommittee(5);
+        x.addCommittee(5);
+        Scene.tails(x, 3);
+        Scene.rent(x, 0, 1, 0);
+        Scene.owe(x, 0, 3);
+        Scene.ground(x, 0, 1, 1);
+        x.moveToGround(0, 1);
+        x.second(1, x.motionAt(0));
+        x.gust(20);
+        x.restore();
+        x.addCommittee(2);
+        x.addCommittee(1);
+        x.addTail(4);
+        x.moveToRent(1, 0);
+        Check.same("committee 0", Scene.committeeLine(x, 0), "4:0/2^");
+        Check.same("committee 1", Scene.committeeLine(x, 1), "4:1/1^");
+        Check.same("the motion", Scene.motionLine(x, 0), "6:#0r0:1");
+        Check.yes("isFree(0)", x.isFree(0));
+        Check.same("length(0)", x.length(0), 4);
     }
 
     private static void writtenOver() {
