@@ -27,6 +27,18 @@ final class Check {
         }
     }
 
+    /** A test that holds the class to one sentence of the document: of a promise, or of "Terms", 0. */
+    static void sentence(int promise, String sentence, Call body) {
+        sentence(promise, sentence, "", body);
+    }
+
+    /** The case tells apart the tests of a sentence that names several. */
+    static void sentence(int promise, String sentence, String theCase, Call body) {
+        Document.hold(promise, sentence);
+        String section = promise == 0 ? "Terms" : "Promise " + promise;
+        test(section + ", \"" + sentence + "\"" + (theCase.isEmpty() ? "" : ": " + theCase), body);
+    }
+
     static void same(String what, long got, long want) {
         if (got != want) {
             fail(what + " answered " + got + ", due is " + want);

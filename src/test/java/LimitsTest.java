@@ -100,18 +100,21 @@ public final class LimitsTest {
         Check.same("the last one left", Scene.motionLine(x, 12), "7:#12t6:0");
     }
 
+    /** Two objects, as the looks at one would be more than the 512 calls that it is used for. */
     private static void fullHistory() {
         KiteTailRental x = fullOfMotions();
         String before = Scene.look(x);
-        Check.same("save()", x.save(), 8);
         x.pass(12);
         x.withdraw(13);
         x.undo();
         x.undo();
         Check.same("everything after undo", Scene.look(x), before);
-        x.pass(12);
-        Check.same("restore()", x.restore(), 8);
-        Check.same("everything after restore", Scene.look(x), before);
+        KiteTailRental y = fullOfMotions();
+        Check.same("save()", y.save(), 8);
+        y.pass(12);
+        y.withdraw(13);
+        Check.same("restore()", y.restore(), 8);
+        Check.same("everything after restore", Scene.look(y), before);
     }
 
     private static void committeeAnew() {

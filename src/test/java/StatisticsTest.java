@@ -1,5 +1,3 @@
-import java.lang.reflect.Field;
-
 /** Promises 51 to 53: statistics and the check of the invariants. */
 public final class StatisticsTest {
     private static final Class<ArithmeticException> ARITHMETIC = ArithmeticException.class;
@@ -11,7 +9,6 @@ public final class StatisticsTest {
         Check.test("52 rentedShare refuses", StatisticsTest::rentedShareRefuses);
         Check.test("53 isConsistent in every kind of state", StatisticsTest::isConsistent);
         Check.test("53 isConsistent changes nothing", StatisticsTest::checkChangesNothing);
-        Check.test("53 isConsistent sees each broken invariant", StatisticsTest::brokenInvariants);
         Check.end();
     }
 
@@ -95,87 +92,5 @@ public final class StatisticsTest {
         Check.yes("isConsistent()", x.isConsistent());
         Check.same("everything after isConsistent()", Scene.look(x), before);
         Check.same("undo() counts no check", x.undo(), 7);
-    }
-
-    /**
-     * No run of calls breaks an invariant, so this test reaches into the object. It knows how the
-     * state is held; where the state is held otherwise, it has nothing to say.
-     */
-    private static void brokenInvariants() {
-        if (!isHeldAsKnown()) {
-            System.out.println("the state is held otherwise: broken invariants are not tried");
-            return;
-        }
-        KiteTailRental charged = busy();
-        set(charged, "charged", 1000);
-        Check.no("isConsistent() with wrong charges", charged.isConsistent());
-
-        for (int tail = 0; tail < 8; tail++) {
-            KiteTailRental grounded = Scene.committees(1, 1);
-            Scene.tails(grounded, 9, 9, 9, 9, 9, 9, 9, 9);
-            Scene.rent(grounded, 0, 1, tail);
-            row(grounded, "flying", boolean[].class)[0] = false;
-            // Without a length, the forecasts agree still.
-            row(grounded, "lengths", int[].class)[tail] = 0;
-            Check.no("isConsistent() with a tail behind a grounded kite", grounded.isConsistent());
-        }
-
-        for (int motions = 1; motions <= 8; motions++) {
-            KiteTailRental votes = Scene.committees(1, 9);
-            Scene.owe(votes, 1, 1);
-            for (int motion = 1; motion < motions; motion++) {
-                votes.moveToGround(0, 1);
-            }
-            votes.moveToGround(1, 1);
-            row(votes, "members", int[].class)[1] = 10;
-            Check.no("isConsistent() with votes that differ", votes.isConsistent());
-        }
-
-        KiteTailRental rate = busy();
-        row(rate, "lengths", int[].class)[0] = -9;
-        Check.yes("the other invariants hold", rate.arrearsAfter(0, 12) != rate.arrearsAfterByRate(0, 12));
-        Check.no("isConsistent() with forecasts that differ", rate.isConsistent());
-    }
-
-    private static boolean isHeldAsKnown() {
-        try {
-            Object state = stateOf(new KiteTailRental());
-            for (String name : new String[] {"charged", "flying", "arrears", "lengths", "members"}) {
-                state.getClass().getDeclaredField(name);
-            }
-            return true;
-        } catch (ReflectiveOperationException e) {
-            return false;
-        }
-    }
-
-    private static Object stateOf(KiteTailRental x) throws ReflectiveOperationException {
-        Field field = KiteTailRental.class.getDeclaredField("state");
-        field.setAccessible(true);
-        return field.get(x);
-    }
-
-    private static Field fieldOf(Object state, String name) throws ReflectiveOperationException {
-        Field field = state.getClass().getDeclaredField(name);
-        field.setAccessible(true);
-        return field;
-    }
-
-    private static <T> T row(KiteTailRental x, String name, Class<T> type) {
-        try {
-            Object state = stateOf(x);
-            return type.cast(fieldOf(state, name).get(state));
-        } catch (ReflectiveOperationException e) {
-            throw new IllegalStateException(e);
-        }
-    }
-
-    private static void set(KiteTailRental x, String name, int value) {
-        try {
-            Object state = stateOf(x);
-            fieldOf(state, name).setInt(state, value);
-        } catch (ReflectiveOperationException e) {
-            throw new IllegalStateException(e);
-        }
     }
 }
