@@ -23,6 +23,10 @@ final class Document {
         return Files.isReadable(PATH);
     }
 
+    static String text() throws IOException {
+        return Files.readString(PATH);
+    }
+
     /** The sentences held by tests that the document does not have in that section. */
     static List<String> strange() throws IOException {
         Set<String> all = new TreeSet<>(sentences());
